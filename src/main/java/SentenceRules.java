@@ -117,16 +117,12 @@ public final class SentenceRules {
     }
 
     public int back() {
-        if (now.present.count == 0) {
-            return NOT_POSSIBLE;
-        }
-        now.present.count--;
-        return now.present.count;
+        return now.present.removeLast() ? now.present.count : NOT_POSSIBLE;
     }
 
     public int clear() {
         int count = now.present.count;
-        now.present.count = 0;
+        now.present.removeAll();
         return count;
     }
 
@@ -145,7 +141,7 @@ public final class SentenceRules {
         }
         recordNow();
         now.addSentence(new Sentence(now.present, reader));
-        now.present.count = 0;
+        now.present.removeAll();
         return now.sentenceCount - 1;
     }
 
@@ -652,7 +648,7 @@ public final class SentenceRules {
         return (bits >> bit & 1) == 1;
     }
 
-    /** The tokens of a sentence in their order. */
+    /** The tokens of a sentence in their order. Only its own methods change the count, so that it stays in range. */
     private static final class Tokens {
         int count;
         final int[] kinds = new int[MOST_TOKENS];
@@ -666,6 +662,18 @@ public final class SentenceRules {
             values[count] = value;
             count++;
             return true;
+        }
+
+        boolean removeLast() {
+            if (count <= 0) {
+                return false;
+            }
+            count--;
+            return true;
+        }
+
+        void removeAll() {
+            count = 0;
         }
 
         void copyFrom(Tokens other) {

@@ -179,6 +179,9 @@ public final class AnswersTest {
         checks.due("contradiction(0)", rules.contradiction(0), Checks.NONE);
         rules.retract(5);
         checks.due("contradiction(0)", rules.contradiction(0), 1);
+        SentenceRules settledFirst = Checks.book("if age is 4 then fee is 9", "if age over 3 then fee is 1",
+                "if age under 5 then fee is 2");
+        checks.due("contradiction(0)", settledFirst.contradiction(0), Checks.NONE);
     }
 
     private static void dueNoContradiction(String... sentences) {

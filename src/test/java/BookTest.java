@@ -11,6 +11,7 @@ public final class BookTest {
         retractRefuses();
         setFactSets();
         undoRestores();
+        undoRestoresAFullBook();
         undoKeepsEight();
         errorsRecordNothing();
         onlyActsRecord();
@@ -49,6 +50,9 @@ public final class BookTest {
         dueNotPossible(rules, "small means small");
         dueNotPossible(rules, "small means age is 1");
         checks.due("tell()", Checks.tell(rules, "minor means small"), 1);
+        dueNotPossible(rules, "minor means age is 1");
+        checks.due("tell()", Checks.tell(rules, "late means small"), 2);
+        dueNotPossible(rules, "late means age is 1");
     }
 
     private static void tellRefusesEmptyRegions() {
@@ -155,6 +159,7 @@ public final class BookTest {
         rules.clear();
         checks.due("undo()", rules.undo(), 2);
         checks.due("sentences()", rules.sentences(), 1);
+        checks.due("gives(0)", rules.gives(0), 1);
         checks.due("number(3)", rules.number(3), 3);
         checks.due("undo()", rules.undo(), 1);
         checks.due("fact(0)", rules.fact(0), 0);
@@ -167,6 +172,26 @@ public final class BookTest {
         checks.due("undo()", rules.undo(), 0);
         checks.due("undo()", rules.undo(), Checks.NONE);
         checks.due("clear()", rules.clear(), 3);
+    }
+
+    private static void undoRestoresAFullBook() {
+        SentenceRules rules = new SentenceRules();
+        for (int i = 0; i < 16; i++) {
+            Checks.tell(rules, "fee is " + i);
+        }
+        rules.retract(15);
+        rules.retract(7);
+        rules.retract(0);
+        Checks.tell(rules, "rate is 1");
+        for (int left = 7; left > 4; left--) {
+            rules.undo();
+        }
+        checks.due("undo()", rules.undo(), 4);
+        checks.due("sentences()", rules.sentences(), 16);
+        for (int i = 0; i < 16; i++) {
+            checks.due("gives(" + i + ")", rules.gives(i), i);
+            checks.due("about(" + i + ")", rules.about(i), 0);
+        }
     }
 
     private static void undoKeepsEight() {

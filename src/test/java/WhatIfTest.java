@@ -7,10 +7,12 @@ public final class WhatIfTest {
         nextChanges();
         nextChangeSeesEveryKindOfAnswer();
         nextChangeSkipsSameAnswers();
+        manyBorders();
         leastValues();
         leastValuesOfDates();
         wrongArguments();
         mattering();
+        matteringBesideTheFirst();
         nothingChanges();
         checks.end("WhatIfTest");
     }
@@ -87,6 +89,27 @@ public final class WhatIfTest {
         checks.due("nextChange(0, 0)", rules.nextChange(0, 0), Checks.NONE);
     }
 
+    /** Sixteen rules, one within the other, of which only the innermost and the end give other answers. */
+    private static void manyBorders() {
+        SentenceRules rules = new SentenceRules();
+        for (int i = 0; i < 16; i++) {
+            Checks.tell(rules, "if age over " + i + " and age under " + (100 - i) + " then fee is "
+                    + (i == 15 ? 2 : 1));
+        }
+        rules.setFact(0, 1);
+        checks.due("nextChange(0, 0)", rules.nextChange(0, 0), 16);
+        checks.due("leastFor(0, 0, 2)", rules.leastFor(0, 0, 2), 16);
+        rules.retract(15);
+        Checks.tell(rules, "if age over 50 and age under 60 then fee is 1");
+        checks.due("nextChange(0, 0)", rules.nextChange(0, 0), 100);
+        checks.due("leastFor(0, 0, 1)", rules.leastFor(0, 0, 1), 1);
+        checks.due("leastFor(0, 0, 2)", rules.leastFor(0, 0, 2), Checks.NONE);
+        rules.retract(0);
+        Checks.tell(rules, "if age over 98 and age under 100 then fee is 2");
+        checks.due("leastFor(0, 0, 2)", rules.leastFor(0, 0, 2), 99);
+        checks.due("nextChange(0, 0)", rules.nextChange(0, 0), 2);
+    }
+
     private static void leastValues() {
         SentenceRules rules = Checks.book("if age over 3 and age under 7 then fee is 1", "if age over 6 then fee is 2",
                 "if size is 4 then fee is 1", "if age not over -9999 then rate is 9", "if age is 5 then fee is 3");
@@ -107,7 +130,8 @@ public final class WhatIfTest {
         SentenceRules none = new SentenceRules();
         checks.due("leastFor(0, 0, -9999)", none.leastFor(0, 0, -9999), Checks.NONE);
         checks.due("leastFor(0, 0, 9999)", none.leastFor(0, 0, 9999), Checks.NONE);
-        SentenceRules last = Checks.book("if count is 9999 then grade is -9999", "if count under 9999 then grade is 9999");
+        SentenceRules last = Checks.book("if count is 9999 then grade is -9999",
+                "if count under 9999 then grade is 9999");
         checks.due("leastFor(3, 3, -9999)", last.leastFor(3, 3, -9999), 9999);
         checks.due("leastFor(3, 3, 9999)", last.leastFor(3, 3, 9999), -9999);
     }
@@ -168,6 +192,17 @@ public final class WhatIfTest {
         checks.due("matters(-1)", rules.matters(-1), Checks.NO_SUCH_SENTENCE);
         checks.due("matters(min)", rules.matters(Integer.MIN_VALUE), Checks.NO_SUCH_SENTENCE);
         checks.due("sentences()", rules.sentences(), 10);
+    }
+
+    /** The answer now is that of the whole book, whichever sentence is asked about. */
+    private static void matteringBesideTheFirst() {
+        SentenceRules rules = Checks.book("if size is 0 then fee is 1", "fee is 2", "if age is 0 then fee is 1");
+        checks.due("matters(0)", rules.matters(0), 0);
+        checks.due("matters(1)", rules.matters(1), 0);
+        checks.due("matters(2)", rules.matters(2), 0);
+        rules.retract(2);
+        checks.due("matters(0)", rules.matters(0), 1);
+        checks.due("matters(1)", rules.matters(1), 0);
     }
 
     private static void nothingChanges() {
