@@ -15,10 +15,12 @@ final class EdgesOfWhatIf {
         noneOrRefusedIf();
         nextChangeAtTheBorders();
         nextChangeOfKinds();
+        nextChangeBehindManyBorders();
         nextChangeOfWrongArguments();
         noNextChange();
         leastForAtTheBorders();
         leastForOfAllValues();
+        leastForBehindManyBorders();
         leastForOfWrongArguments();
         noLeastFor();
         mattersNow();
@@ -151,6 +153,20 @@ final class EdgesOfWhatIf {
         edges.due("nextChange(0, 0) of " + String.join(", ", sentences), rules.nextChange(0, 0), want);
     }
 
+    /** Sixteen rules begin or end at 31 values above the present one, and only the last of these is a change. */
+    private void nextChangeBehindManyBorders() {
+        edges.sentence(33, "Returns the least value of the fact, greater than the present one");
+        for (int fact = 0; fact < 7; fact++) {
+            SentenceRules rules = Checks.book(Edges.ruleWithin(fact, Edges.lowest(fact), 299, 1));
+            for (int i = 1; i <= 15; i++) {
+                Checks.tell(rules, Edges.ruleWithin(fact, 10 * i, 10 * i + 4, 1));
+            }
+            rules.setFact(fact, 5);
+            edges.due("nextChange(0, " + fact + ")", rules.nextChange(0, fact), 300);
+            edges.due("sentences()", rules.sentences(), 16);
+        }
+    }
+
     private void nextChangeOfWrongArguments() {
         edges.sentence(33, "BAD_VALUE if an argument is out of range");
         edges.sentence(33, "result: 0 to 3");
@@ -218,6 +234,20 @@ final class EdgesOfWhatIf {
         edges.due("leastFor(0, 4, 2) by a date that is no matter", again.leastFor(0, 4, 2), 0);
         again.setFact(0, 6);
         edges.due("leastFor(0, 1, 2)", again.leastFor(0, 1, 2), Checks.NONE);
+    }
+
+    /** Sixteen rules begin or end at 31 values before the answer is no more refused. */
+    private void leastForBehindManyBorders() {
+        edges.sentence(34, "Returns the least value of the fact, of all that it can have");
+        for (int fact = 0; fact < 7; fact++) {
+            SentenceRules rules = Checks.book(Edges.ruleWithin(fact, 50, 300, 2));
+            for (int i = 0; i < 15; i++) {
+                Checks.tell(rules, Edges.ruleWithin(fact, 10 + i, 100 + i, 1));
+            }
+            edges.due("leastFor(0, " + fact + ", 2)", rules.leastFor(0, fact, 2), 115);
+            edges.due("leastFor(0, " + fact + ", 1)", rules.leastFor(0, fact, 1), 10);
+            edges.due("sentences()", rules.sentences(), 16);
+        }
     }
 
     private void leastForOfWrongArguments() {
