@@ -125,7 +125,7 @@ final class Scene {
 
     private static void seePresent(SentenceRules rules, List<String> lines) {
         int left = 0;
-        while (left >= 0) {
+        for (int looks = 0; looks < 26 && left >= 0; looks++) {
             see(lines, "syntaxError()", rules.syntaxError());
             left = rules.back();
             see(lines, "back()", left);
