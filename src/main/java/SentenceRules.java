@@ -84,7 +84,7 @@ public final class SentenceRules {
     private final Reader reader = new Reader();
     private final int[] supposed = new int[FACTS];
     private final int[] reasonRow = new int[MOST_SENTENCES];
-    private final StringBuilder text = new StringBuilder();
+    private final StringBuilder builder = new StringBuilder();
 
     public SentenceRules() {
     }
@@ -140,7 +140,7 @@ public final class SentenceRules {
             return FULL;
         }
         recordNow();
-        now.addSentence(new Sentence(now.present, reader));
+        now.addSentence(new Sentence(textOf(now.present), reader));
         now.present.removeAll();
         return now.sentenceCount - 1;
     }
@@ -288,11 +288,7 @@ public final class SentenceRules {
 
     public int length(int sentence) {
         Sentence told = now.sentenceAt(sentence);
-        if (told == null) {
-            return NO_SUCH_SENTENCE;
-        }
-        writeText(told.tokens);
-        return text.length();
+        return told == null ? NO_SUCH_SENTENCE : told.text.length();
     }
 
     public int character(int sentence, int index) {
@@ -300,31 +296,31 @@ public final class SentenceRules {
         if (told == null) {
             return NO_SUCH_SENTENCE;
         }
-        writeText(told.tokens);
-        if (index < 0 || index >= text.length()) {
+        if (index < 0 || index >= told.text.length()) {
             return BAD_VALUE;
         }
-        return text.charAt(index);
+        return told.text.charAt(index);
     }
 
-    private void writeText(Tokens tokens) {
-        text.setLength(0);
+    private String textOf(Tokens tokens) {
+        builder.setLength(0);
         for (int i = 0; i < tokens.count; i++) {
             if (i > 0) {
-                text.append(' ');
+                builder.append(' ');
             }
             writeToken(tokens.kinds[i], tokens.values[i]);
         }
-        text.append('.');
+        builder.append('.');
+        return builder.toString();
     }
 
     private void writeToken(int kind, int value) {
         switch (kind) {
             case WORD:
-                text.append(spelling(value));
+                builder.append(spelling(value));
                 break;
             case NUMBER:
-                text.append(value);
+                builder.append(value);
                 break;
             default:
                 writeDate(dateCode(value));
@@ -333,17 +329,17 @@ public final class SentenceRules {
     }
 
     private void writeDate(int code) {
-        text.append(code / 10000).append('-');
+        builder.append(code / 10000).append('-');
         writeTwoDigits(code / 100 % 100);
-        text.append('-');
+        builder.append('-');
         writeTwoDigits(code % 100);
     }
 
     private void writeTwoDigits(int value) {
         if (value < 10) {
-            text.append('0');
+            builder.append('0');
         }
-        text.append(value);
+        builder.append(value);
     }
 
     private static String spelling(int code) {
@@ -967,14 +963,15 @@ public final class SentenceRules {
 
     /** A sentence that was told. It never changes, so that all recorded states can share it. */
     private static final class Sentence {
-        final Tokens tokens = new Tokens();
+        // Written once, when the sentence is told, so that asking for a character makes nothing.
+        final String text;
         final Region region = new Region();
         final int about;
         final int given;
         final int used;
 
-        Sentence(Tokens tokens, Reader reader) {
-            this.tokens.copyFrom(tokens);
+        Sentence(String text, Reader reader) {
+            this.text = text;
             region.copyFrom(reader.region);
             about = reader.about;
             given = reader.given;

@@ -26,7 +26,8 @@ public final class LanguageTest {
 
     private static final String[] FORBIDDEN = {
         "\\b(throw|throws|try|catch|synchronized|assert|import|package|protected|native|volatile)\\b",
-        "->", "::", "\\bstatic \\{", "\\bnew [\\w<>]+\\([^)]*\\) \\{", "@\\w+", "\\b(hashCode|toString|equals)\\b",
+        "->", "::", "\\bstatic \\{", "\\bnew [\\w<>]+\\([^)]*\\) \\{", "@\\w+",
+        "\\b(hashCode|equals)\\b", "(?<!\\bbuilder\\.)\\btoString\\b",
         "\\b\\w+Exact\\b", "\\bSystem\\.(?!arraycopy)", "\\binstanceof\\b", "\\b(float|double)\\b",
     };
 
