@@ -32,6 +32,7 @@ final class EdgesOfContents {
         noSuchDate();
         dateOfNumbers();
         longestText();
+        textsThatStay();
     }
 
     private void dueNoSentence(String name, java.util.function.IntFunction<Scene.Call> call) {
@@ -426,5 +427,27 @@ final class EdgesOfContents {
         // The text is told the same whichever was read before.
         edges.dueText(rules, 0, "senior means income not under -9999.");
         edges.due("character(1, 130)", rules.character(1, 130), longest.charAt(130));
+    }
+
+    /** Texts are written when a sentence is told, so they must outlast what is said and told behind them. */
+    private void textsThatStay() {
+        edges.sentence(22, "The text consists of its tokens with a blank between two of them");
+        SentenceRules rules = Checks.book("fee is 1 from 2000-01-01", "rate is -22", "minor means age over 3");
+        edges.due("back()", rules.back(), Checks.NOT_POSSIBLE);
+        Checks.say(rules, "if minor then");
+        edges.dueText(rules, 0, "fee is 1 from 2000-01-01.");
+        edges.dueText(rules, 1, "rate is -22.");
+        edges.due("retract(0)", rules.retract(0), 2);
+        edges.dueText(rules, 0, "rate is -22.");
+        edges.dueText(rules, 1, "minor means age over 3.");
+        edges.due("tell()", Checks.tell(rules, "limit is 9"), 2);
+        edges.dueText(rules, 0, "rate is -22.");
+        edges.dueText(rules, 2, "if minor then limit is 9.");
+        edges.due("undo()", rules.undo(), 4);
+        edges.due("length(2)", rules.length(2), Checks.NO_SUCH_SENTENCE);
+        edges.due("undo()", rules.undo(), 3);
+        edges.dueText(rules, 0, "fee is 1 from 2000-01-01.");
+        edges.dueText(rules, 1, "rate is -22.");
+        edges.dueText(rules, 2, "minor means age over 3.");
     }
 }
